@@ -481,7 +481,7 @@ public final class TownLisp {
     }
 
     private static boolean isMember(int set, int p) {
-        return (set >> p & 1) == 1;
+        return ((set >> p) & 1) == 1;
     }
 
     private static int says(int kind, int parts, int thick) {
@@ -565,7 +565,7 @@ public final class TownLisp {
     }
 
     private static boolean isAskedOfYear(int what) {
-        return what >= 0 && what <= 3 || what >= 10 && what < 10 + MOST_PEOPLE;
+        return (what >= 0 && what <= 3) || (what >= 10 && what < 10 + MOST_PEOPLE);
     }
 
     private int refusalOfPairs(Sheet pairs, int i, int n) {
@@ -613,7 +613,7 @@ public final class TownLisp {
         for (int set = 0; set < now.allSets(); set++) {
             int size = Integer.bitCount(set);
             int parts = now.parts[p] + now.partsOf(set);
-            boolean better = best == NONE || size < fewestAsked || size == fewestAsked && parts < fewestParts;
+            boolean better = best == NONE || size < fewestAsked || (size == fewestAsked && parts < fewestParts);
             if ((set & ~others) == 0 && parts >= v && better) {
                 best = set;
                 fewestAsked = size;
@@ -742,7 +742,7 @@ public final class TownLisp {
                 kind[p] = kindOf(text.at(start + 1));
                 parts[p] = twoDigits(text, start + 2);
                 thick[p] = text.at(start + 4) - '0';
-                inside |= text.at(start + 5) - '0' << p;
+                inside |= (text.at(start + 5) - '0') << p;
             }
         }
 
@@ -807,7 +807,7 @@ public final class TownLisp {
         /** What the act's own call answers; STATE, and nothing is changed, if it can't be. */
         int acts(int p, int what) {
             boolean can = what == DAY ? inside != 0 : isIn(p) == (what != COMES);
-            if (!can || what == OPENS && tin == 0) {
+            if (!can || (what == OPENS && tin == 0)) {
                 return STATE;
             }
             switch (what) {
@@ -903,7 +903,7 @@ public final class TownLisp {
                 return parts[p];
             }
             int all = partsOf(set);
-            int aheadOfIt = Integer.bitCount(set & (1 << p) - 1);
+            int aheadOfIt = Integer.bitCount(set & ((1 << p) - 1));
             return all / heads + (aheadOfIt < all % heads ? 1 : 0);
         }
     }

@@ -46,6 +46,13 @@ public final class ActsTest {
         TownLisp few = Dues.townOf("t09;o0011;s0211;c0011;o0011");
         d.due("too few for all", few.day(3), 0);
         parts(few, "too few", 1, 0, 0, 1);
+        TownLisp six = Dues.townOf("t09;o0511;s0111;c0211;o0311;s0311;c3910");
+        d.due("five of six", six.day(5), 2);
+        parts(six, "five of six", 3, 3, 3, 3, 2, 39);
+        d.due("all of six, told", year(six, 15, 5, COMES, 4, DAY), 9);
+        TownLisp alone = Dues.townOf("t09;o0510;s0711");
+        d.due("one alone", alone.day(0), 7);
+        parts(alone, "one alone", 5, 7);
         TownLisp nobody = Dues.townOf("t09;o0510;s0110");
         d.due("nobody is in", nobody.day(0), TownLisp.STATE);
         d.due("no such one ahead of it", nobody.day(2), TownLisp.UNKNOWN);
@@ -233,6 +240,12 @@ public final class ActsTest {
         d.due("no act -1", year(x, 1, 0, -1), TownLisp.OUTSIDE);
         d.due("pair by pair, outside first", year(x, 0, 0, 5, 9, DAY), TownLisp.OUTSIDE);
         d.due("pair by pair, unknown first", year(x, 0, 9, DAY, 0, 5), TownLisp.UNKNOWN);
+        Dues.write(x, 2, Dues.INTS, 9, 9, 0, DAY, 0, DAY, 1, 5, 9, 9);
+        d.due("a later pair, from 2 on", x.year(2, Dues.INTS, 2, 3, 0), TownLisp.OUTSIDE);
+        x.put(2, 7, OPENS);
+        d.due("now none of them", x.year(2, Dues.INTS, 2, 3, 0), 0);
+        x.put(2, 6, 3);
+        d.due("a later person", x.year(2, Dues.INTS, 2, 3, 0), TownLisp.UNKNOWN);
         d.due("ahead of a first wrong", year(x, 1, 0, COMES, 9, DAY), TownLisp.UNKNOWN);
         x.put(0, 0, 0);
         year(x, 1, 0, 5);

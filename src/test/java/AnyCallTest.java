@@ -27,7 +27,9 @@ public final class AnyCallTest {
         if (object % 4 == 0) {
             return;
         }
-        String[] texts = {"t00;o0010;s0010", "t07;o1231;s0721;c0920;o0011;s2251", "t49;o3991;s3991;c3991;o3991;s3991;c3991"};
+        String[] texts = {
+            "t00;o0010;s0010", "t07;o1231;s0721;c0920;o0011;s2251", "t49;o3991;s3991;c3991;o3991;s3991;c3991",
+        };
         String text = texts[random.nextInt(texts.length)];
         for (TownLisp one : new TownLisp[] {x, twin}) {
             Dues.read(one, text);

@@ -92,6 +92,8 @@ public final class AskedTest {
         level("t49;o3911;o0010", 88, 0);
         level("t49;o0011;o3910", 49, 0);
         level("t00;o0011;o3911", 0, 0);
+        level("t01;o0011;o3911", 1, 0);
+        level("t01;o0011;o0011", 0, 1);
         TownLisp nobody = Dues.townOf("t05;o0110;o0310");
         d.due("nobody is in", nobody.level(0), TownLisp.STATE);
         d.due("nobody is in", nobody.level(1), TownLisp.STATE);

@@ -57,8 +57,8 @@ public final class LanguageTest {
                 fields.add(f.getType() + " " + f.getName());
             }
         }
-        Set<String> due = new TreeSet<>(List.of("int UNKNOWN", "int OUTSIDE", "int STATE", "int FULL", "int NONE", "long LOST"));
-        d.holds("the constants are " + fields, fields.equals(due));
+        List<String> due = List.of("int UNKNOWN", "int OUTSIDE", "int STATE", "int FULL", "int NONE", "long LOST");
+        d.holds("the constants are " + fields, fields.equals(new TreeSet<>(due)));
     }
 
     private static String told(Method m) {
@@ -113,13 +113,13 @@ public final class LanguageTest {
         d.part("rules 4, 6, 11, 13");
         String code = source.replaceAll("(?s)/\\*.*?\\*/", "").replaceAll("//[^\n]*", "");
         String[] never = {
-            "throw", "try", "catch", "synchronized", "assert", "import", "package", "hashCode", "toString", "float",
-            "double", "native", "volatile", "Exact", "Random", "Thread", "currentTimeMillis", "nanoTime", "Object",
+            "throw", "try", "catch", "synchronized", "assert", "import", "package", "protected", "hashCode",
+            "toString", "float", "double", "Object", "\\w*Exact", "\\w*Exception", "Random", "Thread",
+            "currentTimeMillis", "nanoTime",
         };
         for (String word : never) {
-            d.holds("no " + word, !code.matches("(?s).*\\b\\w*" + word + "\\b.*") || word.equals("try"));
+            d.holds("no " + word, !code.matches("(?s).*\\b" + word + "\\b.*"));
         }
-        d.holds("no try", !code.matches("(?s).*\\btry\\b.*"));
         d.holds("no lambda, no method reference", !code.contains("->") && !code.contains("::"));
         for (char sign : source.toCharArray()) {
             d.holds("plain signs alone", sign == '\n' || sign >= 32 && sign < 127);
@@ -133,7 +133,8 @@ public final class LanguageTest {
         for (int from = 0; from < lines.length; from++) {
             String head = lines[from];
             String depth = head.substring(0, head.length() - head.stripLeading().length());
-            if (head.endsWith(") {") && (depth.length() == 4 || depth.length() == 8) && !head.matches("\\s*(if|for|while|switch|\\}).*")) {
+            boolean ofClass = depth.length() == 4 || depth.length() == 8;
+            if (head.endsWith(") {") && ofClass && !head.matches("\\s*(if|for|while|switch|\\}).*")) {
                 int to = from;
                 while (to < lines.length && !lines[to].equals(depth + "}")) {
                     to++;

@@ -161,6 +161,7 @@ public final class TownTest {
         d.due("no readings", x.many(4), 0);
         d.due("thick is new", x.ofPerson(0, 2), 1);
         d.due("the tin is new", x.many(1), 1);
+        d.due("who is in is new", x.heard(1), 3);
         d.due("one of the old town", x.ofPerson(2, 0), TownLisp.UNKNOWN);
         d.due("ears are new", x.ears(0), 1022);
         d.due("trace is of the object", x.trace(), 1);

@@ -43,6 +43,9 @@ public final class WorthTest {
         worth(six, 1, 7, 30);
         worth(six, 2, 11, 60);
         worth(six, 3, 1, 15);
+        TownLisp all = Dues.townOf("t00;o0411;o0011;o0011;o0011;o0011;o0011");
+        worth(all, 0, 1, 1);
+        worth(all, 5, 0, 1);
     }
 
     private static void mean(String text, long upper, long lower) {
@@ -60,6 +63,7 @@ public final class WorthTest {
         mean("t07;o0411;s0611;c0011;o0011", 5, 2);
         mean("t07;o0011;s0011;c0910", 0, 1);
         mean("t07;o0710;s0611;c0910", 6, 1);
+        mean("t07;o0711;s0610;c0910", 7, 1);
         mean("t07;o0710;s0610;c0910", TownLisp.LOST, TownLisp.LOST);
         d.due("no town", new TownLisp().mean(0), TownLisp.LOST);
     }
