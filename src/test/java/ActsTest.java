@@ -13,7 +13,6 @@ public final class ActsTest {
         promise11Open();
         promise12Year();
         promise12FirstWrong();
-        promise12Refusals();
         promise12Pairs();
         d.end();
     }
@@ -190,45 +189,6 @@ public final class ActsTest {
             d.due("fault()", x.fault(), 0);
         }
         parts(x, "nothing is changed", 12, 7, 9);
-    }
-
-    private static void promise12Refusals() {
-        d.part("promise 12, refusals");
-        TownLisp none = new TownLisp();
-        d.due("nothing ahead of no town", none.year(0, 0, 0, 0, 0), -11);
-        none.sheet(0, 0, 2);
-        none.put(0, 0, 99);
-        d.due("beyond ahead of no town", none.year(0, 0, 1, 1, 0), -13);
-        d.due("no town ahead of its pairs", none.year(0, 0, 0, 1, 0), TownLisp.STATE);
-        d.due("fault()", none.fault(), 0);
-        TownLisp x = Dues.townOf("t07;o1231;s0721;c0920");
-        Dues.write(x, 0, Dues.INTS, 0, DAY, 0, DAY);
-        refused(x, "no sheet -1", new int[] {-1, 9, 0, 99, 99}, TownLisp.UNKNOWN, 0);
-        refused(x, "no sheet 4", new int[] {4, 2, 0, 1, 0}, TownLisp.UNKNOWN, 0);
-        refused(x, "lane -1", new int[] {1, -1, 0, 1, 0}, TownLisp.OUTSIDE, 0);
-        refused(x, "lane 3", new int[] {0, 3, 9, 1, 0}, TownLisp.OUTSIDE, 0);
-        refused(x, "n -1", new int[] {0, 2, 9, -1, 0}, TownLisp.OUTSIDE, 0);
-        refused(x, "n 21", new int[] {0, 1, 9, 21, 0}, TownLisp.OUTSIDE, 0);
-        for (int what : new int[] {-1, 4, 9, 16}) {
-            refused(x, "what " + what, new int[] {1, 2, 9, 1, what}, TownLisp.OUTSIDE, 0);
-        }
-        refused(x, "another lane", new int[] {0, 1, 9, 1, 0}, -12, 2);
-        refused(x, "nothing", new int[] {1, 1, 9, 1, 0}, -11, 1);
-        refused(x, "beyond", new int[] {0, 2, 1, 2, 0}, -13, 3);
-        refused(x, "half of a pair", new int[] {0, 2, 3, 1, 0}, -13, 3);
-        refused(x, "below 0", new int[] {0, 2, -1, 1, 0}, -13, 3);
-        refused(x, "far", new int[] {0, 2, Integer.MAX_VALUE, 20, 0}, -13, 3);
-        refused(x, "none of them, beyond", new int[] {0, 2, 5, 0, 0}, -13, 3);
-        refused(x, "none of them, below 0", new int[] {0, 2, -1, 0, 0}, -13, 3);
-        d.due("none of them, at the end", x.year(0, 2, 4, 0, 0), 7);
-    }
-
-    private static void refused(TownLisp x, String what, int[] a, int due, int fault) {
-        String before = Dues.seenButFault(x);
-        x.put(1, 0, 0);
-        d.due(what, x.year(a[0], a[1], a[2], a[3], a[4]), due);
-        d.due(what + ": fault()", x.fault(), fault);
-        d.holds(what + ": nothing is changed", before.equals(Dues.seenButFault(x)));
     }
 
     private static void promise12Pairs() {

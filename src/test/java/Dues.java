@@ -65,32 +65,44 @@ final class Dues {
         return x;
     }
 
-    /** All that can be seen of an object, fault() too; looking changes fault() alone. */
-    static String seen(TownLisp x) {
+    /**
+     * All that can be seen of an object, as the last that is done with it: looking takes its READINGS back.
+     * Some 400 calls at most, as an object's calls are promised up to the 512th.
+     */
+    static String lastLook(TownLisp x) {
         StringBuilder all = new StringBuilder();
-        all.append("fault ").append(x.fault());
-        return all.append(seenButFault(x)).toString();
-    }
-
-    static String seenButFault(TownLisp x) {
-        StringBuilder all = new StringBuilder();
-        all.append(" trace ").append(x.trace());
+        all.append("fault ").append(x.fault()).append(" trace ").append(x.trace());
         for (int what = 0; what < 5; what++) {
             all.append(" many ").append(x.many(what));
         }
-        for (int p = 0; p < 6; p++) {
+        int people = x.many(0);
+        for (int p = 0; p < people; p++) {
+            all.append(" person");
             for (int what = 0; what < 5; what++) {
                 all.append(' ').append(x.ofPerson(p, what));
             }
-            all.append(" ears ").append(x.ears(p)).append(" kinds ").append(x.kinds(p));
         }
         for (int k = 0; k < 4; k++) {
-            for (int lane = 0; lane < 3; lane++) {
-                for (int i = 0; i < 60; i++) {
-                    all.append(' ').append(x.cell(k, i, lane));
-                }
-                // An empty row's lane is seen by the fault alone.
-                all.append(" fault ").append(x.fault());
+            all.append(" sheet").append(cellsOf(x, k));
+        }
+        // The last READINGS hide what the first ones tell, so each step back is looked at.
+        for (int left = x.many(4); left >= 0; left--) {
+            for (int p = 0; p < people; p++) {
+                all.append(" ears ").append(x.ears(p)).append(" kinds ").append(x.kinds(p));
+            }
+            all.append(" left ").append(x.back(left > 0 ? 1 : 0));
+        }
+        return all.toString();
+    }
+
+    private static String cellsOf(TownLisp x, int k) {
+        StringBuilder all = new StringBuilder();
+        for (int lane = 0; lane < 3; lane++) {
+            boolean there = true;
+            for (int i = 0; i <= 60 && there; i++) {
+                long cell = x.cell(k, i, lane);
+                there = cell != TownLisp.LOST;
+                all.append(' ').append(there ? cell : -10 - x.fault());
             }
         }
         return all.toString();

@@ -8,7 +8,6 @@ public final class SheetsTest {
         promise27Put();
         promise28Cell();
         promise29Copy();
-        promise29CopyRefusals();
         promise30Tell();
         promise31Call();
         promise32As();
@@ -137,31 +136,6 @@ public final class SheetsTest {
         fault(x, "all", x.copy(1, 0, 0, 2, 3), 3, 0);
         cells(x, "all", 0, 2, 1, 2, 9, 4, 5);
         cells(x, "the first is left", 1, 2, 9, 4, 5);
-    }
-
-    private static void promise29CopyRefusals() {
-        d.part("promise 29, refusals");
-        TownLisp x = new TownLisp();
-        Dues.write(x, 0, 2, 1, 2, 3, 4, 5);
-        Dues.write(x, 1, 2, 9, 9, 9);
-        x.sheet(2, 1, 5);
-        int most = Integer.MAX_VALUE;
-        int[][] rows = {
-            {4, 0, 3, 0, -1, TownLisp.UNKNOWN}, {0, 0, 4, 0, 1, TownLisp.UNKNOWN}, {-1, 0, 0, 0, 1, TownLisp.UNKNOWN},
-            {3, 0, -1, 0, 1, TownLisp.UNKNOWN}, {3, 0, 2, 0, -1, -11}, {2, 0, 3, 0, -1, -11}, {3, 0, 3, 0, 0, -11},
-            {0, 0, 2, 0, -1, -12}, {2, 9, 0, 0, 1, -12}, {0, -1, 1, 0, 1, -13}, {0, 0, 1, -1, 1, -13},
-            {0, 0, 1, 0, -1, -13}, {0, 0, 1, 0, 4, -13}, {1, 0, 0, 0, 4, -13}, {0, 6, 1, 0, 0, -13},
-            {0, 0, 1, 4, 0, -13}, {0, -1, 1, 0, 0, -13}, {0, most, 1, 0, most, -13}, {0, 0, 1, most, most, -13},
-            {0, 1, 0, 1, most, -13}, {0, 0, 0, 0, Integer.MIN_VALUE, -13},
-        };
-        for (int r = 0; r < rows.length; r++) {
-            int[] a = rows[r];
-            String before = Dues.seenButFault(x);
-            x.put(3, 0, 0);
-            int want = a[5];
-            fault(x, "copy row " + r, x.copy(a[0], a[1], a[2], a[3], a[4]), want, want > -10 ? 0 : -10 - want);
-            d.holds("row " + r + " changes nothing", before.equals(Dues.seenButFault(x)));
-        }
     }
 
     private static void promise30Tell() {

@@ -7,7 +7,6 @@ public final class TownTest {
         promise1NewObject();
         promise2Taken();
         promise2FirstFault();
-        promise2Refusals();
         promise2MakesAllAnew();
         promise3OfPerson();
         promise4Tune();
@@ -70,11 +69,10 @@ public final class TownTest {
 
     private static void promise2FirstFault() {
         d.part("promise 2, first fault");
-        TownLisp x = new TownLisp();
         String most = "t49;o3991;s3991;c3991;o0010;s0010;c0010";
         for (int n = 0; n < most.length(); n++) {
             boolean whole = n >= 15 && n % 6 == 3;
-            d.due("first " + n, Dues.read(x, most.substring(0, n)), whole ? (n - 3) / 6 : -100 - n);
+            d.due("first " + n, Dues.read(new TownLisp(), most.substring(0, n)), whole ? (n - 3) / 6 : -100 - n);
         }
         String[] goesOn = {"t", "01234", "0123456789", ";", "osc", "0123", "0123456789", "123456789", "01"};
         for (int place = 0; place < most.length(); place++) {
@@ -82,17 +80,19 @@ public final class TownTest {
             for (int code = 0; code < 128; code++) {
                 String text = most.substring(0, place) + (char) code;
                 int ended = place + 1 >= 15 && (place + 1) % 6 == 3 ? (place - 2) / 6 : -100 - place - 1;
-                d.due("place " + place + " code " + code, readAt(x, text),
+                d.due("place " + place + " code " + code, readAt(text),
                         allowed.indexOf(code) >= 0 ? ended : -100 - place);
             }
         }
+        TownLisp x = new TownLisp();
         d.due("a seventh person", Dues.read(x, most + ";o0010"), -139);
         d.due("another code behind the sixth", Dues.read(x, most + "t"), -139);
         d.due("two wrong codes, the first", Dues.read(x, "t0a;o12x"), -102);
         codesOfOtherLanes();
     }
 
-    private static int readAt(TownLisp x, String text) {
+    private static int readAt(String text) {
+        TownLisp x = new TownLisp();
         Dues.write(x, 0, Dues.SHORTS, Dues.codes("t0" + text));
         return x.town(0, Dues.SHORTS, 2, text.length());
     }
@@ -114,36 +114,6 @@ public final class TownTest {
         codes[0] = 't';
         Dues.write(x, 0, Dues.INTS, codes);
         d.due("nor is the letter", x.town(0, Dues.INTS, 0, codes.length), -104);
-    }
-
-    private static void promise2Refusals() {
-        d.part("promise 2, refusals");
-        TownLisp x = new TownLisp();
-        Dues.write(x, 0, Dues.BYTES, Dues.codes(FIVE));
-        x.town(0, 0, 0, 33);
-        refused(x, "no sheet -1", -1, 9, 0, 0, TownLisp.UNKNOWN, 0);
-        refused(x, "no sheet 4", 4, 0, 0, 33, TownLisp.UNKNOWN, 0);
-        refused(x, "no lane -1", 0, -1, 99, -1, TownLisp.OUTSIDE, 0);
-        refused(x, "no lane 3", 1, 3, 99, -1, TownLisp.OUTSIDE, 0);
-        refused(x, "another lane", 0, 1, 99, -1, -12, 2);
-        refused(x, "nothing", 1, 1, 99, -1, -11, 1);
-        refused(x, "below 0", 0, 0, 99, -1, -14, 4);
-        refused(x, "least n", 0, 0, 0, Integer.MIN_VALUE, -14, 4);
-        refused(x, "beyond", 0, 0, 1, 33, -13, 3);
-        refused(x, "beyond by far", 0, 0, 1, Integer.MAX_VALUE, -13, 3);
-        refused(x, "i below 0", 0, 0, -1, 10, -13, 3);
-        refused(x, "none of them, below 0", 0, 0, -1, 0, -13, 3);
-        refused(x, "none of them, beyond", 0, 0, 34, 0, -13, 3);
-        refused(x, "none of them, at the end", 0, 0, 33, 0, -100, 0);
-        refused(x, "too short", 0, 0, 0, 32, -132, 0);
-    }
-
-    private static void refused(TownLisp x, String what, int sheet, int lane, int i, int n, int due, int fault) {
-        String before = Dues.seenButFault(x);
-        x.put(1, 0, 0);
-        d.due(what, x.town(sheet, lane, i, n), due);
-        d.due(what + ": fault()", x.fault(), fault);
-        d.holds(what + ": nothing is changed", before.equals(Dues.seenButFault(x)));
     }
 
     private static void promise2MakesAllAnew() {
