@@ -31,6 +31,7 @@ public final class ActsEdgesTest {
         yearRefusals();
         yearFaults();
         yearTakesNoCells();
+        yearOfCutCells();
         yearWithoutATown();
         yearPairs();
         aLifeOf512Calls();
@@ -52,6 +53,7 @@ public final class ActsEdgesTest {
         TownLisp none = Dues.townOf("t09;o0011;o0011;o0011");
         d.due("no parts", none.day(2), 0);
         town("no parts", none, 9, 7, 0, 0, 0);
+        d.due("it has gone, too", none.many(3), 1);
         TownLisp few = Dues.townOf("t09;o0011;o0211;o0011");
         d.due("one part fewer than people", few.day(0), 0);
         town("fewer", few, 9, 7, 1, 1, 0);
@@ -411,6 +413,20 @@ public final class ActsEdgesTest {
         e.range("none of an empty row, from", Edges::busy, (x, i) -> x.year(2, 1, i, 0, 0), 0, 0, -13, 3);
     }
 
+    private static void yearOfCutCells() {
+        d.part("12: pairs that are cells of a SHEET, cut to its LANE");
+        int[] wraps = {256, 65536};
+        for (int lane = 0; lane < 2; lane++) {
+            TownLisp x = Dues.townOf(Edges.FIVE);
+            Dues.write(x, 0, lane, wraps[lane], wraps[lane] + LEAVES);
+            d.due("lane " + lane + ", cut", x.year(0, lane, 0, 1, 2), 26);
+            Dues.write(x, 0, lane + 1, wraps[lane], LEAVES);
+            d.due("lane " + lane + " and 1, no person", x.year(0, lane + 1, 0, 1, 2), TownLisp.UNKNOWN);
+            Dues.write(x, 0, lane + 1, 0, wraps[lane] + LEAVES);
+            d.due("lane " + lane + " and 1, no act", x.year(0, lane + 1, 0, 1, 2), TownLisp.OUTSIDE);
+        }
+    }
+
     private static TownLisp bareWithPairs() {
         TownLisp x = new TownLisp();
         Dues.write(x, 1, Dues.INTS, 0, DAY, 9, 9);
@@ -449,14 +465,20 @@ public final class ActsEdgesTest {
             e.leaves("no person", () -> withPairs(5, DAY), x -> x.year(1, 2, 0, 1, what), TownLisp.UNKNOWN, 0);
             e.leaves("no act", () -> withPairs(0, 5), x -> x.year(1, 2, 0, 1, what), TownLisp.OUTSIDE, 0);
         }
-        e.leaves("neither", () -> withPairs(-1, -1), x -> x.year(1, 2, 0, 1, 0), TownLisp.UNKNOWN, 0);
-        e.leaves("outside in the pair ahead", () -> withPairs(0, 5, 5, 0), x -> x.year(1, 2, 0, 2, 0), TownLisp.OUTSIDE, 0);
-        e.leaves("unknown in the pair ahead", () -> withPairs(5, 0, 0, 5), x -> x.year(1, 2, 0, 2, 0), TownLisp.UNKNOWN, 0);
-        e.leaves("behind the last pair", () -> withPairs(0, 0, 5, 5), x -> x.year(1, 2, 0, 1, 0), 7, 0);
-        e.leaves("ahead of the first pair", () -> withPairs(5, 5, 0, 0), x -> x.year(1, 2, 2, 1, 0), 7, 0);
-        e.leaves("ahead of a first wrong", () -> withPairs(5, 0, 0, COMES), x -> x.year(1, 2, 0, 2, 1), TownLisp.UNKNOWN, 0);
-        e.leaves("behind a first wrong", () -> withPairs(0, COMES, 5, 0), x -> x.year(1, 2, 0, 2, 1), TownLisp.UNKNOWN, 0);
-        e.leaves("behind a first wrong", () -> withPairs(0, COMES, 0, 5), x -> x.year(1, 2, 0, 2, 0), TownLisp.OUTSIDE, 0);
+        pairs("neither", TownLisp.UNKNOWN, -1, -1);
+        pairs("outside in the pair ahead", TownLisp.OUTSIDE, 0, 5, 5, DAY);
+        pairs("unknown in the pair ahead", TownLisp.UNKNOWN, 5, DAY, 0, 5);
+        pairs("ahead of a first wrong", TownLisp.UNKNOWN, 5, DAY, 0, COMES);
+        pairs("behind a first wrong", TownLisp.UNKNOWN, 0, COMES, 5, DAY);
+        pairs("behind a first wrong", TownLisp.OUTSIDE, 0, COMES, 0, 5);
+        e.leaves("behind the last pair", () -> withPairs(0, DAY, 5, 5), x -> x.year(1, 2, 0, 1, 0), 7, 0);
+        e.leaves("ahead of the first pair", () -> withPairs(5, 5, 0, DAY), x -> x.year(1, 2, 2, 1, 0), 7, 0);
+    }
+
+    private static void pairs(String what, int due, int... pairs) {
+        for (int asked : new int[] {0, 1}) {
+            e.leaves(what, () -> withPairs(pairs), x -> x.year(1, 2, 0, pairs.length / 2, asked), due, 0);
+        }
     }
 
     private static void aLifeOf512Calls() {

@@ -7,7 +7,6 @@ final class Edges {
     /** In place of a fault(): the call names no FAULTS, so fault() is what it was ahead of it. */
     static final int AS_IT_WAS = -1;
     static final String FIVE = "t07;o1231;s0721;c0920;o0011;s2251";
-    static final String SIX = "t49;o3991;s3991;c3991;o3990;s3990;c3990";
 
     private final Dues d;
 
@@ -77,9 +76,14 @@ final class Edges {
 
     /** PERSON 0 and the last one of towns of 2, 5 and 6, and nobody without a TOWN. */
     void people(String what, ToLongBiFunction<TownLisp, Integer> call, long refusal, int fault) {
-        range(what + " of two, person", () -> faulty("t07;c1231;c0721"), call, 0, 1, refusal, fault);
-        range(what + " of five, person", () -> faulty("t07;c1231;c0721;c0921;c0911;c2251"), call, 0, 4, refusal, fault);
-        range(what + " of six, person", () -> faulty("t49;c3991;c3991;c3991;c3991;c3991;c3991"), call, 0, 5, refusal, fault);
+        String[] texts = {
+            "t07;c1231;c0721", "t07;c1231;c0721;c0921;c0911;c2251", "t49;c3991;c3991;c3991;c3991;c3991;c3991",
+        };
+        int[] last = {1, 4, 5};
+        for (int t = 0; t < texts.length; t++) {
+            String text = texts[t];
+            range(what + ", person", () -> faulty(text), call, 0, last[t], refusal, fault);
+        }
         for (int p : new int[] {-1, 0, 1}) {
             leaves(what + " of no town, person " + p, Edges::bare, x -> call.applyAsLong(x, p), refusal, fault);
         }
