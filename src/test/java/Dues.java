@@ -1,3 +1,8 @@
+import java.io.IOException;
+import java.nio.file.Files;
+import java.nio.file.Path;
+import java.util.stream.Stream;
+
 /** What the project's tests share: counting answers that are not as due, and towns made by a text. */
 final class Dues {
     static final int BYTES = 0, SHORTS = 1, INTS = 2;
@@ -63,6 +68,15 @@ final class Dues {
             throw new IllegalStateException("the test's own town is not taken: " + text + " " + people);
         }
         return x;
+    }
+
+    /** A folder of a test's own, with all that is in it: what lies deepest goes first. */
+    static void delete(Path dir) throws IOException {
+        try (Stream<Path> all = Files.walk(dir)) {
+            for (Path file : all.sorted((a, b) -> b.compareTo(a)).toList()) {
+                Files.delete(file);
+            }
+        }
     }
 
     /**
